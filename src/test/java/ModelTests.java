@@ -15,7 +15,7 @@ final class ModelTests {
     }
 
     public static void main(String[] args) {
-        int runs = args.length > 0 ? Integer.parseInt(args[0]) : 1500;
+        int runs = args.length > 0 ? Integer.parseInt(args[0]) : 4000;
         long from = args.length > 1 ? Long.parseLong(args[1]) : 1;
         for (long seed = from; seed < from + runs; seed++) {
             ModelTests run = new ModelTests(seed, seed % 40 == 0 ? 3 : seed % 4 == 0 ? 2 : 1);
@@ -31,6 +31,9 @@ final class ModelTests {
         // What a call costs in the model grows with the marsh, so big ones get fewer calls.
         int calls = size == 1 ? 120 : size == 2 ? 60 : 30;
         takeMarsh(random.nextInt(8) == 0);
+        if (seed % 25 == 0) {
+            nearTheLastMoment();
+        }
         for (int i = 0; i < calls; i++) {
             boolean same = oneCall();
             same &= m.status == x.status() && m.top == x.top() && m.bottom == x.bottom();
@@ -43,6 +46,16 @@ final class ModelTests {
         boolean same = looksTheSame();
         Check.due("run " + seed + ", at its end", same, true);
         return same;
+    }
+
+    /** So late that what is done later goes beyond 9,999 now and then. */
+    private void nearTheLastMoment() {
+        for (int i = 0; i < 101; i++) {
+            int many = i == 100 ? 50 + random.nextInt(50) : 99;
+            is("stand " + many, x.stand(many), m.stand(many));
+            int w = random.nextInt(4);
+            is("rise " + w, x.rise(w, 0, 0), m.rise(w, 0, 0));
+        }
     }
 
     private boolean is(String call, long got, long want) {
