@@ -1349,7 +1349,6 @@ public final class StiltMarsh {
         void clear() {
             land.clear();
             folk.count = 0;
-            stance.startWhole();
             program.clear();
         }
 

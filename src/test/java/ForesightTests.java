@@ -110,6 +110,8 @@ final class ForesightTests {
         x = Check.marsh("marsh 4 by 3 skin 9 soft 0 deep 30; walker a at 0 0 to 0 0 weight 3;");
         Check.fine(x, "32: all bear 99", x.weakest(0), 0);
         Check.refused(x, "32: walker 1", x.weakest(1), 1);
+        x = Check.marsh("marsh 2 by 2 skin 90 soft 8 deep 30; cell 1 1 skin 89; walker a at 0 0 to 0 0 weight 1;");
+        Check.fine(x, "32: 98 of all that bear 99", x.weakest(0), 101);
         Check.refused(x, "32: walker -1", x.weakest(-1), 1);
     }
 

@@ -37,7 +37,11 @@ final class HolesTests {
 
     private static void dueTracks(StiltMarsh x, int ways, int sure, int... numbers) {
         fill(x, 0, numbers);
+        x.tray(1, 2, numbers.length);
+        x.write(1, 0, 99);
+        Check.fine(x, "50: others", x.tracks(1), 0);
         Check.fine(x, "50: tracks", x.tracks(0), ways);
+        Check.fine(x, "50: others", x.tracks(1), 0);
         if (ways == 0) {
             Check.refused(x, "51: there is no way", x.sure(0), 6);
         } else {

@@ -257,7 +257,7 @@ final class ModelTests {
     private boolean trayCall() {
         int t = below(4);
         int p = below(8);
-        switch (random.nextInt(6)) {
+        switch (random.nextInt(7)) {
             case 0:
                 int sort = below(4);
                 int many = below(random.nextBoolean() ? 8 : 61);
@@ -276,9 +276,8 @@ final class ModelTests {
                 int n = below(8);
                 return is("pour " + t + " " + p + " " + to + " " + at + " " + n, x.pour(t, p, to, at, n),
                     m.pour(t, p, to, at, n));
-            default:
-                return is("tracks " + t, x.tracks(t), m.tracks(t, false)) & m.status == x.status()
-                    & is("sure " + t, x.sure(t), m.tracks(t, true));
+            case 5: return is("tracks " + t, x.tracks(t), m.tracks(t, false));
+            default: return is("sure " + t, x.sure(t), m.tracks(t, true));
         }
     }
 

@@ -10,6 +10,7 @@ final class TextsTests {
     public static void main(String[] args) {
         promise9();
         promise10();
+        promise10InPlace();
         promise10Numbers();
         promise10Faults();
         promise10WalkerFaults();
@@ -53,12 +54,14 @@ final class TextsTests {
         Check.refused(x, "10: a fault", x.marsh(1), 9);
         Check.refused(x, "10: the tape is empty with 9, too", x.marsh(1), 1);
         Check.fine(x, "10: the old one stays", x.told(0), 4);
-        x.stand(3);
+        Check.fine(x, "10: a step", x.step(0, 0, 0, 0), 1);
+        x.stand(2);
         x.mark();
         Check.mornings(x, "stop;", 1);
         Check.feed(x, SMALL);
         Check.fine(x, "10: another one", x.marsh(SMALL.length()), 1);
         Check.fine(x, "10: moment 0", x.told(4), 0);
+        Check.fine(x, "10: no steps", x.walker(0, 7), 0);
         Check.refused(x, "10: no mornings", x.live(0), 6);
         Check.fine(x, "10: who falls", x.stand(1), 1);
         Check.feed(x, SMALL);
@@ -70,6 +73,30 @@ final class TextsTests {
         Check.fine(x, "10: has no cells", x.told(0), 0);
         Check.feed(x, HEAD + "mends 2;" + ANN + "xxxx");
         Check.fine(x, "10: the first n bytes alone", x.marsh(HEAD.length() + ANN.length() + 8), 1);
+    }
+
+    private static void promise10InPlace() {
+        // Nothing of the marsh ahead, nor of one with a fault, is left in the next one.
+        StiltMarsh x = Check.marsh(HEAD + "mends 3; firm 1 1; cell 0 0 skin 1 soft 1 deep 1 odds 1;" + ANN);
+        x.mornings(0);
+        x.step(0, 0, 0, 0);
+        x.mean(0, 1);
+        Check.badMarsh(x, HEAD + "mends 3; firm 1 1; cell 0 0 skin 1 soft 1 deep 1 odds 1;" + ANN + "walker", 2, 130);
+        Check.fine(x, "10: it stays", x.told(3) * 10 + x.told(9), 31);
+        Check.feed(x, HEAD + "mends 0; " + ANN);
+        Check.fine(x, "10: another one", x.marsh(HEAD.length() + ANN.length() + 9), 1);
+        int[] want = {4, 2, 1, 0, 0, 0, 0, 48, 0, 0, 0};
+        for (int what = 0; what <= 10; what++) {
+            Check.fine(x, "10: told " + what, x.told(what), want[what]);
+        }
+        for (int what = 0; what <= 6; what++) {
+            Check.fine(x, "10: cell " + what, x.cell(0, 0, what), new int[] {6, 6, 4, 9, 8, 0, 2}[what]);
+        }
+        Check.fine(x, "10: no steps", x.walker(0, 7), 0);
+        x.stand(1);
+        Check.feed(x, HEAD);
+        Check.fine(x, "10: without mends", x.marsh(HEAD.length()), 0);
+        Check.fine(x, "10: without mends", x.told(3), 0);
     }
 
     private static void promise10Numbers() {
@@ -234,6 +261,8 @@ final class TextsTests {
         Check.badMornings(x, "step home", 2, 5);
         Check.badMornings(x, "when stop", 2, 5);
         Check.badMornings(x, "when ann", 2, 5);
+        Check.badMornings(x, "when; end;", 2, 4);
+        Check.badMornings(x, "when ; ; end;", 2, 5);
         Check.badMornings(x, "when skin 0 0 ; 3", 2, 14);
         Check.badMornings(x, "when skin 0 0 3", 2, 14);
         Check.badMornings(x, "when skin 0 0 < = 3", 2, 16);

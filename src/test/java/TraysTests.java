@@ -125,6 +125,7 @@ final class TraysTests {
         x.write(2, 1, -1);
         Check.fine(x, "7: -1 that is there", x.read(2, 1), -1);
         Check.refused(x, "7: place 2", x.read(2, 2), 3);
+        Check.fine(x, "7: status 0 again", x.read(2, 1), -1);
         Check.refused(x, "7: place -1", x.read(2, -1), 3);
         x.write(2, 0, Long.MIN_VALUE);
         Check.fine(x, "7: the least", x.read(2, 0), Long.MIN_VALUE);

@@ -205,6 +205,8 @@ final class WaysTests {
         Check.fine(x, "46: fallen, too", x.mostPlanks(), 4);
         x.send(1, 0, 0);
         Check.fine(x, "46: a", x.mostPlanks(), 1);
+        x.plank(1, 0);
+        Check.fine(x, "46: none", x.mostPlanks(), 0);
     }
 
     private static void promises47And48() {
@@ -217,6 +219,8 @@ final class WaysTests {
         Check.fine(x, "48: row", x.raced(0, 1, 1, 2), 0);
         Check.fine(x, "47: then b", x.race(0, 1, 2), -2);
         Check.fine(x, "47: then a", x.race(0, 1, 3), -1);
+        Check.fine(x, "48: b is the first", x.raced(1, 0, 1, 1), 3);
+        Check.fine(x, "48: a is the first", x.raced(0, 1, 1, 1), 1);
         Check.fine(x, "47: b is the first", x.race(1, 0, 1), 3);
         Check.fine(x, "48: the first by row of all that are as good", x.raced(1, 0, 1, 1) * 10 + x.raced(1, 0, 1, 2), 31);
         Check.fine(x, "47: nothing changed", x.told(4), 0);
