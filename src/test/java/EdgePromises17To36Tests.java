@@ -55,6 +55,18 @@ final class EdgePromises17To36Tests {
         e.on(text).till(9997).no(4, "step", 0, 0, 1, 0).no(4, "step", 0, 1, 0, 0);
         e.on(text).till(9998).no(4, "step", 0, 0, 1, 0).after("rise", 0, 0, 0);
         e.on(text).till(9999).no(4, "step", 0, 0, 1, 0);
+        // Of each WALKER by each POLE: this one alone is sunk by 4, his other one takes one moment.
+        StringBuilder b = new StringBuilder("marsh 2 by 1 skin 0 soft 8 deep 30; firm 0 0;");
+        for (int w = 0; w < 4; w++) {
+            b.append("walker ").append("abcd".charAt(w)).append(" at 0 0 to 0 0 weight 2 long 30;");
+        }
+        for (int w = 0; w < 4; w++) {
+            for (int pole = 0; pole < 2; pole++) {
+                e.on(b.toString()).till(9991).after("step", w, pole, 1, 0).after("stand", 4).yes(3, "step", w, pole, 0, 0).then(9999, "told", 4);
+                e.on(b.toString()).till(9992).after("step", w, pole, 1, 0).after("stand", 4).no(4, "step", w, pole, 0, 0).yes(1, "step", w, 1 - pole, 0, 0);
+                e.on(b.toString()).till(9993).after("step", w, pole, 1, 0).after("stand", 4).no(4, "step", w, pole, 0, 0).yes(1, "step", w, 1 - pole, 0, 0);
+            }
+        }
     }
 
     private static void promise18() {
@@ -246,6 +258,17 @@ final class EdgePromises17To36Tests {
         // By two a moment the skin of 94 is gone in 47 moments; then one a moment.
         e.on(text).yes(0, "sunkIn", 0, 0, 0).then(0, "sunkIn", 0, 0, 47).then(1, "sunkIn", 0, 0, 48).then(29, "sunkIn", 0, 0, 76).then(30, "sunkIn", 0, 0, 77);
         e.then(30, "sunkIn", 0, 0, 78).then(30, "sunkIn", 0, 0, 99).then(29, "sunkIn", 0, 1, 77).then(29, "sunkIn", 0, 1, 99).then(0, "told", 4).then(94, "cell", 0, 0, 0);
+        // Of each WALKER, each POLE: in his own cell, by his own weight; pole 1 stands firm.
+        String four = "marsh 4 by 2 skin 0 soft 8 deep 30; firm 0 1; firm 1 1; firm 2 1; firm 3 1; walker a at 0 1 to 0 0 weight 2 long 30;"
+            + "walker b at 1 1 to 0 0 weight 4 long 30; walker c at 2 1 to 0 0 weight 6 long 30; walker d at 3 1 to 0 0 weight 8 long 30;";
+        for (int pole = 0; pole < 2; pole++) {
+            for (int w = 0; w < 4; w++) {
+                e.on(four).after("step", w, pole, w, 0);
+                for (int other = 0; other < 4; other++) {
+                    e.yes(other == w ? 3 * (w + 1) : 0, "sunkIn", other, pole, 3).then(0, "sunkIn", other, 1 - pole, 3);
+                }
+            }
+        }
         for (int moment : new int[] {9998, 9999}) {
             e.on("marsh 1 by 1 skin 3 soft 8 deep 30; firm 0 0; walker a at 0 0 to 0 0 weight 2 long 30;").till(moment).after("rot", 0, 0);
             e.yes(0, "sunkIn", 0, 0, 0).then(0, "sunkIn", 0, 0, 2).then(1, "sunkIn", 0, 1, 2).then(1, "sunkIn", 0, 0, 3).then(28, "sunkIn", 0, 0, 30).then(moment, "told", 4);

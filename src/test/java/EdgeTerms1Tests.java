@@ -15,6 +15,7 @@ final class EdgeTerms1Tests {
         tokensBytes();
         tokensAsLongAsTheyGo();
         tokensDigits();
+        tokensCut();
         partsAnyNumber();
         partsPerhaps();
         names();
@@ -36,6 +37,8 @@ final class EdgeTerms1Tests {
         faultToldAlready();
         faultFifthWalker();
         takenInPlace();
+        takenOfNoCells();
+        takenBehindMean();
         Check.close("EdgeTerms1Tests");
     }
 
@@ -155,6 +158,24 @@ final class EdgeTerms1Tests {
         e.faulty(1, H + 6, HEAD + "mends " + "9".repeat(700) + ";");
         e.faulty(1, H + 7, HEAD + "mends  00003").faulty(1, H + 6, HEAD + "mends 4294967299;");
         e.faulty(2, 0, "1234").faulty(1, 0, "12345");
+    }
+
+    private static void tokensCut() {
+        Edge e = new Edge("Terms 1 and Promise 10, TOKENS as long as they go: no further than the first n bytes");
+        String text = HEAD + "mends 3;cell 1 2;walker abc";
+        e.onNew().fed(text + " ".repeat(20));
+        // Behind the cut there are more digits, more letters: they are no part of the TOKEN.
+        e.thenNo(9, "marsh", H + 3).tells(2, "fault", 0).tells(H, "fault", 1);
+        e.onNew().fed(HEAD + "mends 12345").thenNo(9, "marsh", H + 7).tells(2, "fault", 0).tells(H + 7, "fault", 1);
+        e.onNew().fed(HEAD + "mends 12345").thenNo(9, "marsh", H + 8).tells(4, "fault", 0).tells(H + 6, "fault", 1);
+        e.onNew().fed(HEAD + "mends 12345").thenNo(9, "marsh", H + 10).tells(4, "fault", 0).tells(H + 6, "fault", 1);
+        e.onNew().fed(HEAD + "mends 12345").thenNo(9, "marsh", H + 11).tells(1, "fault", 0).tells(H + 6, "fault", 1);
+        e.onNew().fed(HEAD + "walker abcdefghi").thenNo(9, "marsh", H + 15).tells(2, "fault", 0).tells(H + 15, "fault", 1);
+        e.onNew().fed(HEAD + "walker abcdefghi").thenNo(9, "marsh", H + 16).tells(2, "fault", 0).tells(H + 7, "fault", 1);
+        e.onNew().fed(HEAD + "marshes").thenNo(9, "marsh", H + 5).tells(5, "fault", 0).tells(H, "fault", 1);
+        e.onNew().fed(HEAD + "marshes").thenNo(9, "marsh", H + 6).tells(2, "fault", 0).tells(H, "fault", 1);
+        e.on(HEAD + "walker ab" + TAIL).fed("any abc").thenNo(9, "mornings", 6).tells(2, "fault", 0).tells(6, "fault", 1);
+        e.on(HEAD + "walker ab" + TAIL).fed("any abc").thenNo(9, "mornings", 7).tells(3, "fault", 0).tells(4, "fault", 1);
     }
 
     // ---- PARTS
@@ -476,6 +497,9 @@ final class EdgeTerms1Tests {
         e.faulty(5, H, HEAD + HEAD).faulty(5, H, HEAD + "marsh").faulty(5, H, HEAD + "marsh ?").faulty(5, H + 9, HEAD + "mends 3; marsh");
         e.takes(0, HEAD + "mends 0;").faulty(5, H + 8, HEAD + "mends 0;mends 0;").faulty(5, H + 8, HEAD + "mends 0;mends");
         e.faulty(5, H + 17, HEAD + "mends 9;firm 0 0;mends 9;");
+        // The least MARSH, of one CELL, is told already as well.
+        String least = "marsh 1 by 1 skin 0 soft 0 deep 0;";
+        e.takes(0, least).faulty(5, least.length(), least + least).takes(0, least + "mends 1;");
         e.on(HEAD + "mends 3;");
         e.takes(0, HEAD + "mends 4;").then(4, "told", 3);
     }
@@ -505,5 +529,22 @@ final class EdgeTerms1Tests {
         e.on(sinks).mornings("stand 1; any a;").after("stand", 3).fed("marsh");
         e.thenNo(9, "marsh", 5).then(3, "told", 4).then(1, "told", 5).then(2, "live", 0);
         e.takes(0, "").then(0, "told", 4).then(0, "told", 5).then(0, "told", 2).thenNo(6, "live", 0);
+    }
+
+    private static void takenOfNoCells() {
+        Edge e = new Edge("Terms 1, A MARSH that is taken is there in place of that ahead: one of no CELLS");
+        e.on(HEAD + "mends 3; firm 1 1; walker a" + TAIL).after("tray", 0, 0, 0).takes(0, "");
+        for (int what = 0; what <= 10; what++) {
+            e.then(0, "told", what);
+        }
+        e.thenNo(1, "gone", 0).thenNo(1, "luck", 0).thenNo(1, "cell", 0, 0, 0).thenNo(1, "walker", 0, 0).thenNo(1, "copyRow", 0, 0);
+        e.thenNo(6, "luckiest").thenNo(6, "mostPlanks").then(1, "tracks", 0).then(0, "sure", 0);
+    }
+
+    private static void takenBehindMean() {
+        Edge e = new Edge("Terms 1, it is MOMENT 0, nobody is FALLEN: whatever a mean() has tried ahead");
+        String sinks = "marsh 2 by 1 skin 0 soft 9 deep 9; walker a at 0 0 to 1 0 weight 20 long 1; walker b at 1 0 to 1 0 weight 1;";
+        e.on(sinks).mornings("stand 2; step b 0 1 0;").after("step", 1, 0, 1, 0).after("mean", 0, 2).takes(2, sinks);
+        e.then(0, "told", 4).then(0, "told", 5).then(0, "walker", 0, 7).then(0, "walker", 1, 7).then(0, "pole", 0, 0, 2).thenNo(6, "live", 0);
     }
 }

@@ -26,6 +26,7 @@ final class EdgeTerms2Tests {
         stepTakes();
         stepThenStands();
         stepFalls();
+        stepOfEach();
         stand();
         handReach();
         handPoles();
@@ -294,6 +295,33 @@ final class EdgeTerms2Tests {
         e.on("marsh 2 by 1 skin 0 soft 8 deep 30; firm 0 0; walker a at 0 0 to 1 0 weight 2 long 30; walker b at 1 0 to 0 0 weight 2 long 7;");
         e.after("step", 0, 1, 1, 0).after("stand", 4);
         e.yes(3, "step", 0, 1, 0, 0).then(2, "told", 5).then(8, "told", 4).then(1, "told", 9).then(7, "pole", 1, 0, 2);
+    }
+
+    private static void stepOfEach() {
+        Edge e = new Edge("Terms 2, STEP: one more for each 2 that the POLE is SUNK; if he falls in them: of each WALKER by each POLE");
+        String firm = "marsh 2 by 1 skin 0 soft 8 deep 30; firm 0 0;";
+        String names = "abcd";
+        for (int length = 9; length <= 11; length++) {
+            StringBuilder b = new StringBuilder(firm);
+            for (int w = 0; w < 4; w++) {
+                b.append("walker ").append(names.charAt(w)).append(" at 0 0 to 1 0 weight 2 long ").append(length).append(';');
+            }
+            for (int w = 0; w < 4; w++) {
+                for (int pole = 0; pole < 2; pole++) {
+                    // Sunk by 5: three moments for this one alone.
+                    e.on(b.toString()).after("step", w, pole, 1, 0).after("stand", 5).yes(5, "pole", w, pole, 2).then(3, "pull", w, pole).then(1, "pull", w, 1 - pole);
+                    e.then(3, "step", w, pole, 0, 0).then(0, "pole", w, pole, 0).then(0, "pole", w, pole, 2).then(2, "walker", w, 7).then(9, "told", 4);
+                    // By his other pole this one bears 2: 7, then 9, 10 by standing, or he falls.
+                    e.yes(1, "step", w, 1 - pole, 0, 0).then(7, "pole", w, pole, 2).then(1, "step", w, 1 - pole, 0, 0).then(9, "pole", w, pole, 2);
+                    e.then(length == 9 ? 1 << w : 0, "told", 5).then(length == 9 ? 0 : length == 10 ? 1 << w : 0, "stand", 1);
+                    e.then(length == 11 ? 0 : 1 << w, "told", 5);
+                    // In the first of the moments of a step he falls.
+                    e.on(b.toString()).after("step", w, pole, 1, 0).after("step", w, 1 - pole, 1, 0).after("stand", length - 3);
+                    e.yes(length - 1, "pole", w, pole, 2).then(length - 3, "pole", w, 1 - pole, 2).then(1, "step", w, 1 - pole, 0, 0);
+                    e.then(1 << w, "told", 5).then(length - 3, "pole", w, 1 - pole, 2).then(1, "pole", w, 1 - pole, 0);
+                }
+            }
+        }
     }
 
     private static void stand() {

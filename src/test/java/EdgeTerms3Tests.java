@@ -10,6 +10,8 @@ final class EdgeTerms3Tests {
         bearsAlone();
         wayFewest();
         wayWhatever();
+        waysOfEach();
+        crossingOfEach();
         keyNot();
         keyWithout();
         crossingSteps();
@@ -53,6 +55,14 @@ final class EdgeTerms3Tests {
             e.on("marsh 1 by 1 skin 0 soft 8 deep 30; walker a at 0 0 to 0 0 weight 4 long " + l[0] + " load 2;");
             e.yes(l[1], "bears", 0, 0, 0);
         }
+        // By SOFT times 5 by 8 a moment, rounded down: none, 1, 1, 2, .. 5; 5 long.
+        int[] softs = {99, 99, 4, 4, 2, 1, 1, 1, 0, 0};
+        for (int soft = 0; soft <= 9; soft++) {
+            e.on("marsh 1 by 1 skin 0 soft " + soft + " deep 30; walker a at 0 0 to 0 0 weight 5 long 5;").yes(softs[soft], "bears", 0, 0, 0);
+        }
+        // What is left by rounding down is not kept: 7 by 8 and 15 by 8, each time.
+        e.on("marsh 1 by 1 skin 0 soft 7 deep 30; walker a at 0 0 to 0 0 weight 1 long 1;").yes(99, "bears", 0, 0, 0);
+        e.on("marsh 1 by 1 skin 0 soft 5 deep 30; walker a at 0 0 to 0 0 weight 3 long 30;").yes(29, "bears", 0, 0, 0);
         int[][] skins = {{0, 1}, {1, 2}, {5, 2}, {6, 2}, {7, 3}, {12, 3}, {13, 4}};
         for (int[] s : skins) {
             e.on("marsh 1 by 1 skin " + s[0] + " soft 8 deep 30; walker a at 0 0 to 0 0 weight 6;");
@@ -105,6 +115,58 @@ final class EdgeTerms3Tests {
         Edge e = new Edge("Terms 3, WAY: whatever sinks or breaks (FALLEN ones, too, as if not)");
         e.on("marsh 3 by 1 skin 0 soft 9 deep 30; walker a at 0 0 to 2 0 weight 20 long 1;").yes(3, "way", 0).then(1, "stand", 1).then(3, "way", 0);
         e.then(1, "send", 0, 0, 0).then(0, "way", 0).then(0, "told", 6).then(1, "send", 0, 1, 0).then(2, "way", 0);
+    }
+
+    /** Four walkers in one row, the poles of each apart: w's at w and w + 1. */
+    private static Edge apart(Edge e, String land, String to) {
+        StringBuilder b = new StringBuilder(land);
+        for (int w = 0; w < 4; w++) {
+            b.append("walker ").append("abcd".charAt(w)).append(" at ").append(w).append(" 0 to ").append(to).append(" weight 1;");
+        }
+        e.on(b.toString());
+        for (int w = 0; w < 4; w++) {
+            e.after("step", w, w % 2, w + 1, 0);
+        }
+        return e;
+    }
+
+    private static void waysOfEach() {
+        Edge e = new Edge("Terms 3, WAY, KEY, PLANKS: by the POLES of his own");
+        String land = "marsh 6 by 1 skin 9 soft 0 deep 0;";
+        for (int w = 0; w < 4; w++) {
+            // To the right end: the pole at w + 1 is nearer; to the left end: that at w.
+            apart(e, land, "5 0").yes(5 - w, "way", w).then(3 - w, "keys", w).then(4 - w, "planks", w);
+            for (int c = 0; c < 6; c++) {
+                e.then(c > w + 1 && c < 5 ? 1 : 0, "isKey", w, c, 0);
+            }
+            apart(e, land, "0 0").yes(w + 1, "way", w).then(Math.max(0, w - 1), "keys", w).then(w, "planks", w);
+            for (int c = 0; c < 6; c++) {
+                e.then(c > 0 && c < w ? 1 : 0, "isKey", w, c, 0);
+            }
+            apart(e, land + "firm 2 0; firm 4 0;", "5 0").yes(new int[] {2, 2, 1, 1}[w], "planks", w);
+            apart(e, land + "firm 2 0; firm 4 0;", "0 0").yes(new int[] {0, 1, 2, 2}[w], "planks", w);
+        }
+        // From the far corner to the first one, against the order of the cells, round about by firm ones.
+        String winding = "marsh 6 by 5 skin 9 soft 0 deep 0; firm 5 3; firm 5 2; firm 4 2; firm 3 2; firm 3 3; firm 3 4; firm 2 4; firm 1 4; firm 1 3; firm 1 2;"
+            + "firm 1 1; firm 0 1; firm 0 0; walker a at 5 4 to 0 0 weight 1;";
+        e.on(winding).yes(0, "planks", 0).after("rot", 3, 3).yes(1, "planks", 0).after("rot", 0, 0).yes(2, "planks", 0);
+        e.after("rot", 1, 4).after("rot", 1, 3).after("rot", 2, 4).yes(2, "planks", 0).after("rot", 5, 2).yes(3, "planks", 0);
+    }
+
+    private static void crossingOfEach() {
+        Edge e = new Edge("Terms 3, CROSSING: of one WALKER, by the POLES of his own, by POLE 0, then POLE 1");
+        String land = "marsh 6 by 1 skin 50 soft 0 deep 0;";
+        for (int w = 0; w < 4; w++) {
+            // His pole w % 2 stands in w + 1: to there it is one step of the other one.
+            apart(e, land, "0 0").after("send", w, w + 1, 0).yes(1, "soonest", w, 1).then(1 - w % 2, "soonestAt", w, 1, 0).then(w + 1, "soonestAt", w, 1, 1);
+            e.then(1 - w % 2, "sparingAt", w, 1, 0).then(w + 1, "sparingAt", w, 1, 1).then(0, "soonestAt", w, 3, 2);
+            // To w likewise, by the pole that is ahead.
+            apart(e, land, "0 0").after("send", w, w, 0).yes(1, "soonest", w, 2).then(w % 2, "soonestAt", w, 2, 0).then(w, "soonestAt", w, 2, 1);
+            // Two cells ahead it is the pole behind, at once.
+            if (w + 2 < 6) {
+                apart(e, land, "0 0").after("send", w, w + 2, 0).yes(2, "soonest", w, 2).then(1 - w % 2, "soonestAt", w, 2, 0).then(w + 2, "soonestAt", w, 2, 1).thenNo(6, "soonest", w, 1);
+            }
+        }
     }
 
     private static void keyNot() {

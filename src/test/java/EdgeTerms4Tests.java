@@ -13,6 +13,8 @@ final class EdgeTerms4Tests {
         noneAtFirst();
         stepsAnyNumber();
         canNotStand();
+        numberIsNoWord();
+        beginsAnew();
         ends();
         theEnd();
         namesOfNobody();
@@ -90,10 +92,31 @@ final class EdgeTerms4Tests {
         for (String word : "marsh by skin soft deep mends cell odds firm walker at to weight reach long load fallen home".split(" ")) {
             e.faultyMornings(2, 0, word + " 1;").faultyMornings(2, 6, "stop; " + word + ";");
         }
+        e.faultyMornings(2, 5, "when ;").faultyMornings(2, 5, "when ; end;").faultyMornings(2, 5, "loop ; end;").faultyMornings(2, 5, "stop 1;");
         for (String sign : new String[] {"<", ">", "="}) {
             e.takesMornings(1, "when skin 0 0 " + sign + " 3; end;").takesMornings(1, "when skin 0 0" + sign + "3;end;");
         }
         e.faultyMornings(2, 0, ";").faultyMornings(2, 5, "stop;;").faultyMornings(2, 0, "ann 1 1 1;");
+    }
+
+    private static void numberIsNoWord() {
+        // Every NUMBER there is, where a WORD must stand.
+        StiltMarsh x = null;
+        for (int number = 0; number <= 9999; number++) {
+            if (number % 100 == 0) {
+                x = Check.marsh(TWO);
+            }
+            String text = number + " ann;";
+            Check.badMornings(x, text, 2, 0);
+        }
+    }
+
+    private static void beginsAnew() {
+        Edge e = new Edge("Terms 4, MORNINGS: {STEP}: nothing of a text with a FAULT is left for the next one").on(TWO);
+        String three = "loop 1;loop 1;loop 1;";
+        e.fed(three).thenNo(9, "mornings", 21).thenFed("end;").thenNo(9, "mornings", 4).tells(2, "fault", 0).tells(0, "fault", 1);
+        e.on(TWO).fed(three).thenNo(9, "mornings", 21).thenFed(three + "end;end;end;").then(3, "mornings", 33).then(3, "live", 0);
+        e.on(TWO).fed("stop;".repeat(31)).thenNo(9, "mornings", 155).thenFed("stop;".repeat(30)).then(30, "mornings", 150).then(1, "live", 0);
     }
 
     private static void ends() {
@@ -173,6 +196,9 @@ final class EdgeTerms4Tests {
         e.faultyMornings(6, 150, "stop;".repeat(30) + "stop").faultyMornings(6, 151, "stop;".repeat(30) + " any zoe").faultyMornings(6, 150, "stop;".repeat(30) + "loop");
         e.takesMornings(30, "stop;".repeat(28) + "loop 1;stop;end;").faultyMornings(6, 156, "stop;".repeat(28) + "loop 1;stop;end;stop;");
         e.takesMornings(30, "loop 1;end;".repeat(10) + "loop 9;" + "stop;".repeat(19) + "end;");
+        // As many ends as can be, by all of 300 bytes; the last one is needed as well.
+        e.takesMornings(30, "loop9;end;".repeat(30)).then(30, "live", 0).then(0, "lived", 4);
+        e.faultyMornings(2, 296, "loop9;end;".repeat(29) + "loop9;");
         e.faultyMornings(6, 110 + 7 + 95, "loop 1;end;".repeat(10) + "loop 9;" + "stop;".repeat(19) + "stand 1;end;");
         e.faultyMornings(2, 150, "stop;".repeat(30) + "end;").faultyMornings(2, 150, "stop;".repeat(30) + "ann").faultyMornings(2, 150, "stop;".repeat(30) + "1");
         e.faultyMornings(1, 150, "stop;".repeat(30) + "?").faultyMornings(2, 150, "stop;".repeat(30) + ";");
@@ -236,9 +262,36 @@ final class EdgeTerms4Tests {
                 }
             }
         }
+        anyOfEach(e);
         // Beside the other pole, not beside itself: pole 1 stands at 2 1, pole 0 at 1 1; seed 1 draws pole 0, a column less.
         e.on("marsh 3 by 3 skin 50 soft 8 deep 9; walker ann at 1 1 to 0 0 weight 2;").mornings("any ann;").after("step", 0, 1, 2, 1);
         e.yes(1, "live", 1).then(1, "pole", 0, 0, 0).then(0, "lived", 0).then(2, "walker", 0, 7);
+    }
+
+    /** Four walkers far from one another, the poles of each apart: by his own other pole alone. */
+    private static void anyOfEach(Edge e) {
+        String names = "abcd";
+        for (int w = 0; w < 4; w++) {
+            StringBuilder b = new StringBuilder("marsh 5 by 5 skin 50 soft 0 deep 0;");
+            for (int i = 0; i < 4; i++) {
+                b.append("walker ").append(names.charAt(i)).append(" at ").append(1 + 2 * (i % 2)).append(' ').append(1 + 2 * (i / 2)).append(" to 0 0 weight 1;");
+            }
+            int c = 1 + 2 * (w % 2);
+            int r = 1 + 2 * (w / 2);
+            e.on(b.toString()).mornings("any " + names.charAt(w) + ";").after("step", w, 0, c, r + 1);
+            // Seed 9,998: pole 1, a row more, beside pole 0; seed 1: pole 0, a column less, beside pole 1.
+            if (r + 2 < 5) {
+                e.yes(1, "live", 9998).then(c, "pole", w, 1, 0).then(r + 2, "pole", w, 1, 1).then(0, "lived", 0);
+            } else {
+                e.yes(1, "live", 9998).then(r, "pole", w, 1, 1).then(1, "lived", 0);
+            }
+            e.yes(1, "live", 1).then(c - 1, "pole", w, 0, 0).then(r, "pole", w, 0, 1).then(0, "lived", 0).then(2, "walker", w, 7);
+            for (int other = 0; other < 4; other++) {
+                if (other != w) {
+                    e.then(0, "walker", other, 7).then(1 + 2 * (other % 2), "pole", other, 0, 0);
+                }
+            }
+        }
     }
 
     private static void anyDrawsFirst() {
@@ -313,9 +366,30 @@ final class EdgeTerms4Tests {
             e.on(text).mornings("any ann;").till(moment);
             e.yes(1, "live", 2).then(fits ? 0 : 1, "lived", 0).then(fits ? 3 : 0, "lived", 1).then(fits ? moment + 3 : moment, "told", 4);
         }
+        missedBeyondOfEach(e);
         // A hand takes no moment, so it can be at 9,999.
         e.on("marsh 1 by 1 skin 0 soft 0 deep 0; walker ann at 0 0 to 0 0 weight 1 load 1; walker bo at 0 0 to 0 0 weight 1;").mornings("hand ann bo 1;").till(9999);
         lives(e, 1, 0, 0, 0, 0, 0).then(1, "walker", 1, 3);
+    }
+
+    /** One pole of one of three is sunk by 4, all others are not: its step takes three moments, that of his other pole one. */
+    private static void missedBeyondOfEach(Edge e) {
+        String land = "marsh 2 by 1 skin 0 soft 8 deep 30; firm 0 0;";
+        String walkers = "walker ann at 0 0 to 0 0 weight 2 long 30; walker bo at 0 0 to 0 0 weight 2 long 30; walker cy at 0 0 to 0 0 weight 2 long 30;";
+        String[] names = {"ann", "bo", "cy"};
+        for (int w = 0; w < 3; w++) {
+            for (int pole = 0; pole < 2; pole++) {
+                for (int moment = 9996; moment <= 9999; moment++) {
+                    e.on(land + walkers).mornings("step " + names[w] + " " + pole + " 0 0;").till(moment - 5).after("step", w, pole, 1, 0).after("stand", 4);
+                    boolean fits = moment <= 9996;
+                    lives(e, 1, fits ? 0 : 1, fits ? 3 : 0, fits ? 1 : 0, 0, 0).then(fits ? 0 : 1, "pole", w, pole, 0);
+                    // By his other pole: one moment.
+                    e.on(land + walkers).mornings("step " + names[w] + " " + (1 - pole) + " 0 0;").till(moment - 5).after("step", w, pole, 1, 0).after("stand", 4);
+                    fits = moment <= 9998;
+                    lives(e, 1, fits ? 0 : 1, fits ? 1 : 0, fits ? 1 : 0, 0, 0).then(4 + (fits ? 2 : 0), "pole", w, pole, 2);
+                }
+            }
+        }
     }
 
     private static void skinCompares() {
@@ -385,7 +459,9 @@ final class EdgeTerms4Tests {
         e.on(LAND + "walker ann at 1 1 to 0 0 weight 1;").mornings("any ann; any ann;").yes(2, "live", 9999).then(1, "pole", 0, 1, 0).then(2, "pole", 0, 1, 1);
         e.on(LAND + "walker ann at 1 1 to 0 0 weight 1;").mornings("any ann; any ann; any ann; any ann;").yes(4, "live", 9999);
         e.then(0, "pole", 0, 1, 0).then(1, "pole", 0, 1, 1).then(1, "pole", 0, 0, 0).then(1, "pole", 0, 0, 1).then(4, "walker", 0, 7);
-        // Each LIVED begins with its seed anew.
+        // Each LIVED begins with its seed anew, and is told by itself.
+        e.yes(4, "live", 9999).then(4, "lived", 2).then(4, "lived", 1).then(4, "live", 9999).then(4, "lived", 2).then(4, "lived", 1).then(0, "lived", 0);
+        e.yes(4, "live", 9999);
         e.then(4, "live", 9999).then(0, "pole", 0, 1, 0).then(8, "walker", 0, 7);
     }
 
