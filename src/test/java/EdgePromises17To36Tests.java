@@ -244,6 +244,11 @@ final class EdgePromises17To36Tests {
         }
         // Of several by row, then column.
         e.on(land).after("pierce", 0, 3).after("pierce", 5, 2).yes(205, "weakest", 0).then(9, "pierce", 4, 2).then(204, "weakest", 0);
+        // One that bears 98 or 97, all others 99; of 99 and more by its skin it is like them.
+        for (int skin = 88; skin <= 91; skin++) {
+            e.on("marsh 2 by 2 skin 0 soft 0 deep 0; cell 1 1 skin " + skin + " soft 8 deep 30; walker a at 0 0 to 0 0 weight 1;");
+            e.yes(Math.min(99, skin + 9), "bears", 0, 1, 1).then(skin <= 89 ? 101 : 0, "weakest", 0);
+        }
         // A cell that bears as long by other numbers is as weak; all that bear 99 are alike.
         e.on("marsh 2 by 2 skin 0 soft 8 deep 30; cell 0 0 skin 1; walker a at 0 0 to 0 0 weight 5;").yes(1, "weakest", 0);
         e.on("marsh 2 by 2 skin 6 soft 8 deep 30; cell 0 0 skin 9; walker a at 0 0 to 0 0 weight 5;").yes(0, "weakest", 0);

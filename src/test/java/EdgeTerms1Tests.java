@@ -546,5 +546,6 @@ final class EdgeTerms1Tests {
         String sinks = "marsh 2 by 1 skin 0 soft 9 deep 9; walker a at 0 0 to 1 0 weight 20 long 1; walker b at 1 0 to 1 0 weight 1;";
         e.on(sinks).mornings("stand 2; step b 0 1 0;").after("step", 1, 0, 1, 0).after("mean", 0, 2).takes(2, sinks);
         e.then(0, "told", 4).then(0, "told", 5).then(0, "walker", 0, 7).then(0, "walker", 1, 7).then(0, "pole", 0, 0, 2).thenNo(6, "live", 0);
+        e.takes(0, HEAD).then(0, "told", 4).then(0, "told", 5).then(0, "told", 6);
     }
 }
